@@ -23,8 +23,11 @@ public final class TwoHalves {
     private static final int ALL_TENTHS = 10000;
     private static final int ORDERS = 24;
 
-    /** By how many have come ahead: in how many of the 24 orders just those came ahead of a pack. */
-    private static final int[] ORDERS_BY_AHEAD = {6, 2, 2, 6};
+    /** By how many packs are lost, a given one among them: in how many orders it comes next. */
+    private static final int[] ORDERS_BY_LOST = {0, 6, 2, 2, 6};
+
+    /** By how many doings are told: the least number that is too great to tell them. */
+    private static final long[] DOINGS_END = {1L, 1000L, 1000000L, 1000000000L, 1000000000000L};
 
     private final Text text = new Text();
     private final State now = new State();
@@ -214,20 +217,12 @@ public final class TwoHalves {
     }
 
     public int judge(int n, long row) {
-        if (n < 1 || n > MOST_DOINGS || row < 0) {
-            return BAD;
-        }
-        long unit = 1;
-        for (int i = 0; i < n; i++) {
-            unit *= 1000;
-        }
-        if (row >= unit) {
+        if (n < 1 || n > MOST_DOINGS || row < 0 || row >= DOINGS_END[n]) {
             return BAD;
         }
         trial.copy(now);
         for (int place = 0; place < n; place++) {
-            unit = Math.max(1, unit / 1000);
-            int doing = (int) (row / unit % 1000);
+            int doing = (int) (row / DOINGS_END[n - 1 - place] % 1000);
             if (!goesWell(doing / 100, doing / 10 % 10, doing % 10)) {
                 return place;
             }
@@ -275,8 +270,8 @@ public final class TwoHalves {
         int sum = 0;
         for (int lost = 0; lost < SETS; lost++) {
             if ((lost & bit) != 0) {
-                int ahead = PACKS - Integer.bitCount(lost);
-                sum += ORDERS_BY_AHEAD[ahead & 3] * (misses[lost] - misses[lost ^ bit]);
+                int orders = ORDERS_BY_LOST[Integer.bitCount(lost)];
+                sum += orders * (misses[lost] - misses[lost ^ bit]);
             }
         }
         return fraction(sum, ORDERS, upper);
@@ -594,13 +589,19 @@ public final class TwoHalves {
         }
 
         private boolean tellRows(int figure) {
+            if (figure < 1 || figure > MOST_SIDE) {
+                return false;
+            }
             rows = figure;
-            return figure >= 1 && figure <= MOST_SIDE;
+            return true;
         }
 
         private boolean tellColumns(int figure) {
+            if (figure < 1 || figure > MOST_SIDE) {
+                return false;
+            }
             columns = figure;
-            return figure >= 1 && figure <= MOST_SIDE;
+            return true;
         }
 
         private boolean hasRoom() {
