@@ -168,6 +168,13 @@ public final class PromisesTest {
         faultDue("M23i13", 5);
         faultDue("M32i22", 5);
         faultDue("M32i21", NONE);
+        faultDue("M/", 1);
+        faultDue("M6/", 2);
+        faultDue("M66i/", 4);
+        faultDue("M66i6", 4);
+        faultDue("M66i0/", 5);
+        faultDue("M66i06", 5);
+        faultDue("M66i55", NONE);
         faultDue("M11i00" + (char) 0, 6);
         faultDue("" + (char) 255, 0);
         StringBuilder twenty = new StringBuilder("M64");
@@ -224,6 +231,30 @@ public final class PromisesTest {
         write(x, "M66");
         due("map() without shades", x.map(), 0);
         due("shades gone", x.cell(2, 5), NONE);
+        mapAfterAsking();
+    }
+
+    /** What is asked is tried somewhere inside, and none of that may come into the next map. */
+    private static void mapAfterAsking() {
+        TwoHalves x = of(PAIR);
+        x.paint(1, 2, 1);
+        x.shift(3);
+        x.lose(3);
+        due("out", x.dot(1, 2, true), 1);
+        due("judged", x.judge(2, 103600), NONE);
+        due("drawn", x.drawn(1) >= 0 ? 1 : 0, 1);
+        due("best change", x.about(9), NONE);
+        due("map() of the same text", x.map(), 2);
+        due("shift", x.about(3), 1);
+        due("lost", x.about(4), 0);
+        due("dots", x.shade(0, 2), 16);
+        x.paint(1, 2, 1);
+        due("out again", x.dot(1, 2, true), 1);
+        x.wipe();
+        write(x, "M11");
+        due("map() without shades", x.map(), 0);
+        due("nothing comes out", x.dot(1, 2, true), 0);
+        due("no miss", x.about(6), 0);
     }
 
     private static void promise6About() {
@@ -262,6 +293,15 @@ public final class PromisesTest {
         due("the other is as good", x.change(1, 2), 2);
         x = of("M11i00");
         due("one shade", x.about(9), NONE);
+        // rows {0, 1, 3} and {2, 4, 5}, columns exact
+        x = of("M26i00i01i12i03i14i15");
+        due("shades next to each other", x.about(9), 203);
+        due("they are changed", x.change(2, 3), 4);
+        due("by where shades are now", x.about(9), NONE);
+        x.undo();
+        due("by where shades are again", x.about(9), 203);
+        due("worse", x.change(0, 5), 16);
+        due("another is best then", x.about(9), 104);
     }
 
     private static void promise6BestShift() {
@@ -650,6 +690,8 @@ public final class PromisesTest {
         due("not blank", x.judge(1, 401), 0);
         due("no line to be blank", x.judge(1, 404), 0);
         due("blank", x.judge(2, 101401), NONE);
+        due("the first line is blank", x.judge(2, 100400), NONE);
+        due("the last line is blank", x.judge(2, 103403), NONE);
         due("blank not 0", x.judge(2, 101411), 1);
         due("another is blank", x.judge(2, 101402), 1);
         due("not right then", x.judge(2, 101310), 1);
@@ -766,6 +808,11 @@ public final class PromisesTest {
         y.see(0, 0, 2);
         // by columns it is 2: pack 0 is lost, pack 3 is not
         due("by a guess", y.which(), 0x00aa);
+        y.unsee();
+        y.paint(2, 3, 3);
+        y.see(2, 3, 3);
+        // it comes out by both alone: packs 1 and 2 came
+        due("of the last dot", y.which(), 0x0303);
     }
 
     private static void promise23Share() {
@@ -802,6 +849,7 @@ public final class PromisesTest {
         chanceDue(x, 3, 5, 1, 1);
         chanceDue(x, 9999, 5, 1, 1);
         chanceDue(x, 0, 2, 384, 625);
+        chanceDue(x, 0, 1, 8019, 10000);
         chanceDue(x, 0, 0, 1, 1);
         chanceDue(x, 0, 10, 0, 1);
         chanceDue(x, 1, 10, 1, 1);
