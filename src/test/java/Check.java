@@ -20,6 +20,10 @@ final class Check {
         }
     }
 
+    void count(int right) {
+        asked += right;
+    }
+
     void end(String test) {
         for (int i = 0; i < Math.min(40, wrong.size()); i++) {
             System.out.println(wrong.get(i));
