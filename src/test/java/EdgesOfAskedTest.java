@@ -40,7 +40,11 @@ public final class EdgesOfAskedTest extends Edges {
         x.see(1, 1, 2);
         x.seed(-7);
         String before = stand(x);
-        due("best change", x.about(9) == NONE ? 1 : 0, 0);
+        for (int i = 0; i < 2; i++) {
+            due("best change", x.about(9) == NONE ? 1 : 0, 0);
+            due("5 is in the cell of 0", x.cell(0, 0), 5);
+            due("1 is in its own", x.cell(0, 1), 1);
+        }
         due("best shift", x.about(10) >= 0 ? 1 : 0, 1);
         due("band", x.about(11), 2);
         due("judged, all done", x.judge(4, 103200512600L), 3);
@@ -340,6 +344,7 @@ public final class EdgesOfAskedTest extends Edges {
         due("not so at 1", x.judge(4, 203401104999L), 1);
         due("can not be at 2", x.judge(4, 203203204401L), 2);
         due("not so at 3", x.judge(4, 203203203401L), 3);
+        due("can not be at 3", x.judge(4, 203203203700L), 3);
         due("none", x.judge(4, 203203203203L), NONE);
     }
 

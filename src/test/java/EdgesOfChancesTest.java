@@ -260,8 +260,10 @@ public final class EdgesOfChancesTest extends Edges {
         // pack 3 lost: 4; else 4 for each line that is blank and has line 3 for its down alone, or
         // (0 + 1) / 2 = 0 for one between: {0,1,2}: 12, {0,1}: 0, so 4 * 8 + 12 over 16
         meanDue(x, 5, 11, 4);
+        // 4 * 1000 + 12 * 9 over 10000
+        meanDue(x, 1, 1027, 2500);
         x.lose(1);
-        meanDue(x, 5, 11, 4);
+        meanDue(x, 1, 1027, 2500);
         TwoHalves y = of(table(6, 6, 20));
         for (int i = 0; i < 16; i++) {
             y.paint(i / 4, i % 4, 19);
@@ -411,16 +413,17 @@ public final class EdgesOfChancesTest extends Edges {
         x.lose(3);
         due("keep(1)", x.keep(1), 9);
         due("again(0)", x.again(0), 0);
-        due("cells, dots, shift, lost of 0", figures(x), 10);
+        due("rows, columns, dots, shift, lost of 0", figures(x), 20010);
         due("again(1)", x.again(1), 9);
-        due("cells, dots, shift, lost of 1", figures(x), 2139);
+        due("rows, columns, dots, shift, lost of 1", figures(x), 2139);
         due("again(0) once more", x.again(0), 0);
-        due("cells, dots, shift, lost of 0 once more", figures(x), 10);
+        due("rows, columns, dots, shift, lost of 0 once more", figures(x), 20010);
     }
 
-    /** The shade in cell (0, 0), the last dot, shift, packs lost, a figure each. */
+    /** The row of shade 2, the column of shade 0, the last dot, shift, packs lost, a figure each. */
     private static int figures(TwoHalves x) {
-        return 1000 * x.cell(0, 0) + 100 * x.dot(3, 3, false) + 10 * x.about(3) + x.about(4);
+        return 10000 * x.shade(2, 0) + 1000 * x.shade(0, 1) + 100 * x.dot(3, 3, false)
+            + 10 * x.about(3) + x.about(4);
     }
 
     private void slotsNoActs() {

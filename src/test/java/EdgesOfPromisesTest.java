@@ -165,6 +165,7 @@ public final class EdgesOfPromisesTest extends Edges {
         x.keep(0);
         x.keep(1);
         x.see(1, 2, 3);
+        x.judge(1, 101);
         x.seed(-5);
         return x;
     }
@@ -600,7 +601,9 @@ public final class EdgesOfPromisesTest extends Edges {
         x.shift(3);
         x.lose(3);
         due("slot 1", x.again(1), 8);
-        due("cell", x.cell(0, 0), 1);
+        due("cell of 1", x.cell(0, 0), 1);
+        due("row of 0", x.shade(0, 0), 1);
+        due("column of 0", x.shade(0, 1), 1);
         due("dot", x.dot(1, 2, false), 2);
         due("shift", x.about(3), 0);
         due("lost", x.about(4), 8);

@@ -124,12 +124,12 @@ public final class EdgesOfRefusalsTest extends Edges {
     private void pictureStays() {
         TwoHalves x = of("M33i00i11i22");
         for (int i = 0; i < 16; i++) {
-            x.paint(i / 4, i % 4, i % 3);
+            x.paint(i / 4, i % 4, (i + 1) % 3);
         }
         dotsStay(x);
         x.change(0, 2);
         dotsStay(x);
-        x.move(1, 0, 1);
+        x.move(0, 0, 1);
         dotsStay(x);
         x.lay(2);
         dotsStay(x);
@@ -138,7 +138,7 @@ public final class EdgesOfRefusalsTest extends Edges {
 
     private void dotsStay(TwoHalves x) {
         for (int i = 0; i < 16; i++) {
-            due("dot " + i, x.dot(i / 4, i % 4, false), i % 3);
+            due("dot " + i, x.dot(i / 4, i % 4, false), (i + 1) % 3);
         }
     }
 

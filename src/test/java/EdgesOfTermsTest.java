@@ -623,19 +623,23 @@ public final class EdgesOfTermsTest extends Edges {
         TwoHalves x = of("M22i00i01");
         due("a cell that is not empty", x.move(0, 0, 1), LATE);
         due("its own cell", x.move(0, 0, 0), LATE);
-        due("an empty cell", x.move(0, 1, 1), 1);
-        due("there", x.cell(1, 1), 0);
-        due("the cell it left is empty", x.cell(0, 0), NONE);
-        due("and can be moved into", x.move(1, 0, 0), 0);
+        due("an empty cell", x.move(1, 1, 0), 1);
+        due("there", x.cell(1, 0), 1);
+        due("the cell it left is empty", x.cell(0, 1), NONE);
+        due("and can be moved into", x.move(0, 0, 1), 0);
         due("acts", x.about(12), 2);
     }
 
     private void laidApart() {
+        String row = "M16";
+        String column = "M61";
         for (int b = 0; b <= 5; b++) {
-            TwoHalves fits = of(table(1, 6, b + 1));
+            row += "i0" + (5 - b);
+            column += "i" + (5 - b) + "0";
+            TwoHalves fits = of(row);
             due(b + 1 + " in a row by " + b, fits.lay(b) >= 0 ? 1 : 0, 1);
             due("the last is " + b + " apart", fits.cell(0, b), b);
-            TwoHalves down = of(table(6, 1, b + 1));
+            TwoHalves down = of(column);
             due(b + 1 + " in a column by " + b, down.lay(b) >= 0 ? 1 : 0, 1);
             due("the last is " + b + " apart", down.cell(b, 0), b);
             if (b < 5) {
@@ -697,6 +701,7 @@ public final class EdgesOfTermsTest extends Edges {
         due("a pack lost", x.about(12), 6);
         x.lose(0);
         due("a pack found", x.about(12), 7);
+        due("none is lost", x.about(4), 0);
         due("found undone: it is lost again", 10 * x.undo() + x.about(4), 61);
     }
 
