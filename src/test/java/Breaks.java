@@ -77,6 +77,16 @@ final class Breaks {
         at("int wipe(", "return was", "return 0", "p3", "letters");
         at("int wipe(", "text.length = 0", "text.length = 1", "p3", "notUndone");
         at("int fault(", "text.readInto(trial)", "text.readInto(now)", "p4");
+        at("int about(", "return now.rows", "return trial.rows", "p4");
+        at("int shade(", "!now.hasShade", "!trial.hasShade", "p4");
+        at("int cell(", "!now.hasCell", "!trial.hasCell", "p4");
+        at("int guess(", "now.numbersOf", "trial.numbersOf", "p4");
+        at("int change(", "remember(now)", "remember(trial)", "p4");
+        at("int move(", "!now.hasCell", "!trial.hasCell", "p4");
+        at("int lay(", "now.shades", "trial.shades", "p4");
+        at("int lay(", "remember(now)", "remember(trial)", "p4");
+        at("int shift(", "remember(now)", "remember(trial)", "p4");
+        at("int band(", "now.cellsWithin", "trial.cellsWithin", "p4");
         at("int map(", "text.readInto(trial) != NONE", "text.readInto(now) != NONE", "lateMap", "p5late");
         at("int map(", "!= NONE", "== text.length + 1", "p5late", "faultEnd", "cells");
         at("int map(", "now.copy(trial)", "now.shades = trial.shades", "p5", "seenNow");
@@ -208,6 +218,7 @@ final class Breaks {
         at("boolean comesOutRight(", "==", "!=", "judgeRight", "judgeDone");
         at("boolean comesOutRight(", "trial.shift, trial.lost", "trial.shift, now.lost", "judgeRight",
             "judgeAhead");
+        at("boolean comesOutRight(", "trial.shift, trial.lost", "now.shift, trial.lost", "judgeDone");
         at("boolean comesOutBlank(", "== 1", "== 0", "judgeBlank", "judgeAhead", "judgePack");
         at("boolean triedChange(", "|| a == b", "", "judgeChange");
         at("boolean triedChange(", "!trial.hasShade(a) || ", "", "judgeChange");
@@ -229,6 +240,7 @@ final class Breaks {
         at("int bestShift(", "v < SHIFTS", "v < SHIFTS - 1", "bestShift");
         at("int bestShift(", "int best = 0", "int best = 1", "bestShift", "bestShiftLike");
         at("int greatestMiss(", "Math.max(greatest, ", "(", "bestShift");
+        at("int greatestMiss(", "int greatest = 0", "int greatest = 1", "bestShift");
         at("int greatestMiss(", "1 << pack", "1 << pack | now.lost", "bestShiftAside");
         at("int band(", "int b = 0", "int b = 1", "band", "bandNoShades", "p1");
         at("int band(", ">= now.shades", "> now.shades", "band", "bandNoShades");
@@ -452,6 +464,7 @@ final class Breaks {
         at("void send(", "blank |= 1 << line;", "blank |= 8 >> line;", "outBlank", "sets");
         at("void fill(", "!state.hasShade(shade)", "!state.hasShade(shade) && line < 0", "noShades");
         at("void fill(", "dots[place] = 0", "dots[place] = 1", "noShades", "p1");
+        at("void fill(", "dots[place] = 0;", "", "noShades");
         at("void fill(", "rowsCame && columnsCame", "rowsCame || columnsCame", "outOne", "packs", "p10");
         at("void fill(", "rowsCame && columnsCame", "rowsCame && !rowsCame", "outBoth", "drawnLost");
         at("void fill(", "guesses.of(0, state.rowOf[shade])", "guesses.of(1, state.columnOf[shade])",

@@ -2,6 +2,7 @@ import java.io.ByteArrayOutputStream;
 import java.io.IOException;
 import java.io.InputStream;
 import java.io.OutputStream;
+import java.io.Writer;
 import java.lang.reflect.Constructor;
 import java.lang.reflect.Method;
 import java.net.URI;
@@ -22,8 +23,9 @@ import javax.tools.ToolProvider;
 
 /** Breaks the program in each of the ways that Breaks tells: the tests of the sentences must see it. */
 public final class BreaksTest {
-    private static final List<String> TESTS = List.of("EdgesOfTermsTest", "EdgesOfAskedTest",
-        "EdgesOfChancesTest", "EdgesOfRefusalsTest", "EdgesOfPromisesTest");
+    private static final List<Class<? extends Edges>> TESTS = List.of(EdgesOfTermsTest.class,
+        EdgesOfAskedTest.class, EdgesOfChancesTest.class, EdgesOfRefusalsTest.class,
+        EdgesOfPromisesTest.class);
     private static final Check check = new Check();
     private static final JavaCompiler compiler = ToolProvider.getSystemJavaCompiler();
 
@@ -55,10 +57,11 @@ public final class BreaksTest {
     private static Map<String, String> testsOfSentences() throws Exception {
         Map<String, String> tests = new HashMap<>();
         Loader whole = new Loader(Map.of());
-        for (String test : TESTS) {
+        for (Class<?> test : TESTS) {
             Method names = method(whole, "names");
-            for (Object name : (Set<?>) names.invoke(madeBy(whole, test))) {
-                check.holds("two sentences are named " + name, tests.put((String) name, test) == null);
+            for (Object name : (Set<?>) names.invoke(madeBy(whole, test.getName()))) {
+                check.holds("two sentences are named " + name,
+                    tests.put((String) name, test.getName()) == null);
             }
         }
         return tests;
@@ -99,15 +102,10 @@ public final class BreaksTest {
             }
         };
         try (JavaFileManager files = new Memory(classes)) {
-            boolean so = compiler.getTask(OutputStreamNone.WRITER, files, null, List.of("-proc:none"), null,
+            boolean so = compiler.getTask(Writer.nullWriter(), files, null, List.of("-proc:none"), null,
                 List.of(source)).call();
             return so ? new Loader(classes) : null;
         }
-    }
-
-    /** What the compiler has to say of a break is told by the check. */
-    private static final class OutputStreamNone {
-        static final java.io.Writer WRITER = java.io.Writer.nullWriter();
     }
 
     /** Classes stay in memory. */

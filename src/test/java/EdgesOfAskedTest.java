@@ -144,6 +144,10 @@ public final class EdgesOfAskedTest extends Edges {
         TwoHalves ones = of(PAIR);
         paintDown(ones, 1, 1, 1, 1);
         bestShiftDue(ones, 0);
+        // each half tells all: nothing is off but a line that is blank, by 1
+        TwoHalves exact = of("M22i00i11");
+        paintDown(exact, 1);
+        bestShiftDue(exact, 1);
         bestShiftDue(six(5, 1, 0, 0), 1);
         bestShiftDue(six(5, 0, 1, 0), 2);
         bestShiftDue(six(1, 5, 0, 0), 3);
@@ -364,6 +368,7 @@ public final class EdgesOfAskedTest extends Edges {
         // shift 0: line 0 is blank, and line 1 is 0: 0 + 1 + 4 + 9
         due("2 is done", x.judge(3, 200100613), 2);
         due("2 is done, enough", x.judge(3, 200100614), NONE);
+        due("2 is done, and 3 goes by it", spot().judge(3, 201101310), NONE);
         // columns {1, 2}, {0, 3} guess 1, 1: 1 + 0 + 1 + 4
         due("5 is done", x.judge(3, 501100605), 2);
         due("5 is done, enough", x.judge(3, 501100606), NONE);

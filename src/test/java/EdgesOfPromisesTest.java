@@ -151,6 +151,49 @@ public final class EdgesOfPromisesTest extends Edges {
         x.write('i');
         due("no cell is empty", x.fault(), 9);
         due("it does not change the table", x.about(1), 1);
+        faultAside("M11", NONE);
+        faultAside("M66i55i44i33i22i11i00i01", NONE);
+        faultAside("M6", 2);
+    }
+
+    /** What is read of another text is not taken for the map, by no call. */
+    private void faultAside(String text, int want) {
+        TwoHalves x = of("M24i00i11i02i13");
+        TwoHalves y = of("M24i00i11i02i13");
+        x.wipe();
+        write(x, text);
+        int[] kinds = {0, 1, 2, 3, 4, 5, 6, 7, 8, 9, 10, 11, 12, 13, 14, 7, 10, 15, 16, 16, 16, 15, 16, 2,
+            16, 15, 16, 16, 16, 17, 18, 8};
+        for (int i = 0; i < kinds.length; i++) {
+            due("fault() of " + text, x.fault(), want);
+            due("as without it, call " + i, someCall(x, kinds[i]), someCall(y, kinds[i]));
+            due("shift and lost", 100 * x.about(3) + x.about(4), 100 * y.about(3) + y.about(4));
+            due("sides", x.about(7) + x.about(8), y.about(7) + y.about(8));
+        }
+    }
+
+    private static int someCall(TwoHalves x, int kind) {
+        switch (kind) {
+            case 0: return 10 * x.about(0) + x.about(1);
+            case 1: return x.about(11);
+            case 2: return x.shade(3, 1);
+            case 3: return x.shade(4, 0);
+            case 4: return x.cell(1, 3);
+            case 5: return x.cell(2, 0);
+            case 6: return x.guess(1, 3);
+            case 7: return x.change(3, 0);
+            case 8: return x.move(1, 1, 0);
+            case 9: return x.lay(0);
+            case 10: return x.lay(2);
+            case 11: return x.paint(0, 0, 3);
+            case 12: return x.paint(0, 0, 4);
+            case 13: return x.shift(3);
+            case 14: return x.lose(0);
+            case 15: return x.about(6);
+            case 16: return x.undo();
+            case 17: return x.which();
+            default: return x.keep(0) + 10 * x.again(0);
+        }
     }
 
     /** An object in which nothing is as at first. */

@@ -582,6 +582,14 @@ public final class EdgesOfTermsTest extends Edges {
         due("0 whatever is lost", x.which(), 65535);
         x.see(3, 3, 1);
         due("1 by no set", x.which(), 0);
+        TwoHalves y = of(PAIR);
+        y.paint(1, 2, 1);
+        due("1 came out", y.dot(1, 2, true), 1);
+        y.wipe();
+        write(y, "M12");
+        y.map();
+        due("0 without shades", y.dot(1, 2, true), 0);
+        due("nothing is off", y.about(6), 0);
     }
 
     private void squares() {
