@@ -303,6 +303,7 @@ final class Breaks {
         at("int drawn(", "trial.shift, trial.lost", "1, trial.lost", "drawnLost");
         at("void paintBy(", "v / DOTS % LINES * DOTS + v % DOTS", "v % (LINES * DOTS) / 4 + v % 4 * 4",
             "drawnDot");
+        at("void paintBy(", "v >= 0", "v > 0", "drawnDot");
         at("void paintBy(", "v / (LINES * DOTS) % shades", "v / DOTS % shades", "drawnDot");
         at("void paintBy(", "v / (LINES * DOTS) % shades", "v / (LINES * DOTS) % 20", "drawnDot");
     }

@@ -356,6 +356,22 @@ public final class EdgesOfChancesTest extends Edges {
         loseAll(x, 0, 1, 2, 3);
         // dots (3, 3), (2, 0), (0, 1), (1, 0) are 1, 0, 1, 1; all come out as 0
         due("by hand", x.drawn(4), 1 + 1 + 2 + 3);
+        x.paint(0, 0, 1);
+        drawnOnce(x, -7379792620528906219L, 0L, 0);
+        drawnOnce(x, 4483922187169113968L, (1L << 33) - 1, 0);
+        // dot (0, 1) is 0, as it was
+        drawnOnce(x, -84997745826115563L, 1L << 33, 1);
+        // dot (3, 3) is 1, v being the greatest that there is
+        drawnOnce(x, -2810872687533676688L, -1L, 2);
+        // dot (3, 3) is 1 too, v being half of that; dot (0, 0) is 0
+        drawnOnce(x, 6412499349321099120L, Long.MAX_VALUE, 2);
+        drawnOnce(x, 1843579416325869589L, Long.MIN_VALUE, 0);
+    }
+
+    private void drawnOnce(TwoHalves x, long seed, long then, int want) {
+        x.seed(seed);
+        due("drawn(1) by " + seed, x.drawn(1), want);
+        due("the seed then", x.seed(0), then);
     }
 
     private void drawnAdded() {
