@@ -375,12 +375,12 @@ public final class TwoHalves {
 
     private int sideOf(int half) {
         guesses.take(now);
-        return guesses.side(half);
+        return guesses.side(now, half);
     }
 
     private int bothSides(State state) {
         guesses.take(state);
-        return guesses.side(0) + guesses.side(1);
+        return guesses.side(state, 0) + guesses.side(state, 1);
     }
 
     private int bestChange() {
@@ -640,6 +640,11 @@ public final class TwoHalves {
             return half == 0 ? rows : columns;
         }
 
+        /** The row of a shade (half 0), or its column (half 1). */
+        private int numberIn(int half, int shade) {
+            return half == 0 ? rowOf[shade] : columnOf[shade];
+        }
+
         private int shadeIn(int row, int column) {
             for (int shade = 0; shade < shades; shade++) {
                 if (rowOf[shade] == row && columnOf[shade] == column) {
@@ -812,12 +817,11 @@ public final class TwoHalves {
         }
     }
 
-    /** The guess of each row and each column, and how far off all of them are. */
+    /** The guess of each row and each column. */
     private static final class Guesses {
         private final int[] counts = new int[HALVES * MOST_SIDE];
         private final int[] sums = new int[HALVES * MOST_SIDE];
         private final int[] best = new int[HALVES * MOST_SIDE];
-        private final int[] sides = new int[HALVES];
 
         private void take(State state) {
             Arrays.fill(counts, 0);
@@ -829,7 +833,6 @@ public final class TwoHalves {
             for (int i = 0; i < HALVES * MOST_SIDE; i++) {
                 best[i] = nearest(counts[i], sums[i]);
             }
-            takeSides(state);
         }
 
         private void count(int index, int shade) {
@@ -845,21 +848,17 @@ public final class TwoHalves {
             return count == 0 ? NONE : (2 * sum + count - 1) / (2 * count);
         }
 
-        private void takeSides(State state) {
-            sides[0] = 0;
-            sides[1] = 0;
-            for (int shade = 0; shade < state.shades; shade++) {
-                sides[0] += square(shade - best[state.rowOf[shade]]);
-                sides[1] += square(shade - best[MOST_SIDE + state.columnOf[shade]]);
-            }
-        }
-
         private int of(int half, int number) {
             return best[half * MOST_SIDE + number];
         }
 
-        private int side(int half) {
-            return sides[half];
+        /** How far off all guesses of a half are, of the state that was taken. */
+        private int side(State state, int half) {
+            int sum = 0;
+            for (int shade = 0; shade < state.shades; shade++) {
+                sum += square(shade - of(half, state.numberIn(half, shade)));
+            }
+            return sum;
         }
     }
 

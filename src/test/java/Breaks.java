@@ -124,7 +124,12 @@ final class Breaks {
         at("int change(", "!now.hasShade(a)", "a == HALVES - 3", "p11");
         at("int change(", "a == b", "a > b", "p11", "changed");
         at("int change(", "if (a == b)", "if (a == b + 9)", "p11", "changed", "actsEach", "refusedNothing");
-        at("int change(", "return bothSides(now)", "return guesses.side(0)", "p11");
+        at("int change(", "return bothSides(now)", "return sideOf(0)", "p11");
+        at("int change(", "return bothSides(now)", "return sideOf(1)", "p11");
+        at("int move(", "return bothSides(now)", "return sideOf(0)", "p12");
+        at("int move(", "return bothSides(now)", "return sideOf(1)", "p12");
+        at("int lay(", "return bothSides(now)", "return sideOf(0)", "p13");
+        at("int lay(", "return bothSides(now)", "return sideOf(1)", "p13");
         at("int change(", "now.swap(a, b);", "now.swap(a, b);\n        now.dots[0] = b;", "pictureStays");
         at("int change(", "if (!now.hasShade(a) || !now.hasShade(b)) {\n            return UNKNOWN;\n        "
             + "}\n        if (a == b) {\n            return LATE;\n        }",
@@ -437,10 +442,17 @@ final class Breaks {
         at("void take(State", "count(MOST_SIDE + state.columnOf[shade], shade)",
             "count(MOST_SIDE + state.rowOf[shade], shade)", "guessColumn", "sides", "p9",
             "guessElsewhere");
-        at("void takeSides(", "square(shade - best[state.rowOf[shade]])",
-            "Math.abs(shade - best[state.rowOf[shade]])", "sides");
-        at("void takeSides(", "sides[1] += square(shade - best[MOST_SIDE + state.columnOf[shade]])",
-            "sides[1] += Math.abs(shade - best[MOST_SIDE + state.columnOf[shade]])", "changed");
+        at("int side(", "square(shade - of(half, state.numberIn(half, shade)))",
+            "Math.abs(shade - of(half, state.numberIn(half, shade)))", "sides", "changed");
+        at("int side(", "shade < state.shades", "shade < state.shades - 1", "sides");
+        at("int side(", "int shade = 0", "int shade = 1", "sides");
+        at("int side(", "of(half, state", "of(0, state", "sides");
+        at("int side(", "of(half, state", "of(1, state", "sides");
+        at("int numberIn(", "half == 0", "half == 1", "sides");
+        at("int bothSides(", "side(state, 0) + guesses", "side(state, 1) + guesses", "p11", "changed");
+        at("int bothSides(", "+ guesses.side(state, 1)", "+ guesses.side(state, 0)", "p11", "changed");
+        at("int bothSides(", "guesses.take(state);", "", "p11", "changed");
+        at("int sideOf(", "guesses.take(now);", "", "sides");
         at("int of(int half", "half * MOST_SIDE + number", "number", "guessColumn", "outOne", "p9");
         at("int nearest(", "return count == 0 ? NONE : (2 * sum + count - 1) / (2 * count)",
             "return count == 0 ? NONE : (2 * sum + count - 1) / (2 * count) / 2 * 2", "guessElsewhere",

@@ -359,6 +359,12 @@ public final class EdgesOfPromisesTest extends Edges {
         due("sides then", y.change(1, 2), 2);
         due("sides as told", y.about(7) + y.about(8), 2);
         due("sides then, back", y.change(2, 1), 1);
+        TwoHalves z = of(SQUARE);
+        // rows {3, 1}, {2, 0} are 4 off, columns {3, 2}, {1, 0} are 2; then the other way about
+        due("both sides off", z.change(0, 3), 6);
+        due("both sides off, of HALF 0", z.about(7), 4);
+        due("both sides off, the other way", z.change(1, 2), 6);
+        due("both sides off, of HALF 1", z.about(8), 4);
         due("without shades", new TwoHalves().change(0, 1), UNKNOWN);
     }
 
