@@ -99,6 +99,12 @@ final class Breaks {
         at("int map(", "return LATE", "acts.forgetAll();\n            return LATE", "lateMap", "p5late");
         at("int about(", "case 5: return blankNow()", "case 5: return now.lost", "p6", "outBlank");
         at("int about(", "sideOf(0)", "sideOf(1)", "p6", "sides");
+        at("int about(", "return now.shift", "return 1", "p6");
+        at("int about(", "return blankNow()", "return 1", "p6");
+        at("int about(", "return sideOf(1)", "return 0", "p6");
+        at("int about(", "return bestShift()", "return 1", "p6");
+        at("int about(", "return band()", "return 1", "p6");
+        at("int dot(", "return now.dots[line * DOTS + dot]", "return 1", "p10");
         at("int about(", "sideOf(1)", "sideOf(0)", "p6", "sides", "allAlike");
         at("int about(", "case 12: return acts.size", "case 12: return acts.first", "p6", "actsKinds",
             "actsEach");
@@ -136,7 +142,7 @@ final class Breaks {
             "if (a == b) {\n            return LATE;\n        }\n        "
             + "if (!now.hasShade(a) || !now.hasShade(b)) {\n            return UNKNOWN;\n        }",
             "p11", "refusalOrder");
-        at("int change(", "acts.remember(now);", "", "actsKinds", "p17");
+        at("int change(", "acts.remember(now);", "", "p11", "actsKinds", "p17");
         at("int move(", "!= NONE", "== 99", "p12", "moved", "ownCell", "cells");
         at("int move(", "now.shadeIn(row, column) != NONE",
             "now.shadeIn(row, column) != NONE && now.shadeIn(row, column) != shade", "ownCell", "moved",
@@ -145,18 +151,18 @@ final class Breaks {
         at("int move(", "now.put(shade, row, column)", "now.put(shade, column, row)", "moved", "p12");
         at("int move(", "now.put(shade, row, column);",
             "now.put(shade, row, column);\n        now.dots[0] = shade;", "pictureStays");
-        at("int move(", "acts.remember(now);", "", "actsKinds", "moved", "p17");
+        at("int move(", "acts.remember(now);", "", "p12", "actsKinds", "moved", "p17");
         at("int lay(", "b < 0", "b < -1", "p13", "laidApart");
         at("int lay(", "b < 0", "b < 1", "p13", "laidApart", "noneLeftOut");
         at("int lay(", "< now.shades", "< now.shades - 1", "noneLeftOut", "laidApart", "p13", "band");
         at("int lay(", "< now.shades", "<= now.shades", "noneLeftOut", "laidApart", "p13", "band");
         at("int lay(", "now.layWithin(b);", "now.layWithin(b);\n        now.dots[0] = 0;\n"
             + "        now.dots[1] = 0;", "pictureStays");
-        at("int lay(", "acts.remember(now);", "", "actsKinds", "p17", "actsEach");
+        at("int lay(", "acts.remember(now);", "", "p13", "actsKinds", "p17", "actsEach");
         at("int lay(", "return bothSides(now)", "return 0", "p13", "actsEach");
         at("int paint(", "|| !now.hasShade(shade)", "", "p14", "dotsFirst", "actsEach");
         at("int paint(", "return was", "return shade", "p14", "dotsFirst");
-        at("int paint(", "acts.remember(now);", "", "actsKinds", "actsForgotten", "actsEach", "p17");
+        at("int paint(", "acts.remember(now);", "", "p14", "actsKinds", "actsForgotten", "actsEach", "p17");
         at("int paint(", "acts.remember(now);",
             "if (now.dots[line * DOTS + dot] != shade) {\n            acts.remember(now);\n        }",
             "actsEach");
@@ -164,11 +170,11 @@ final class Breaks {
         at("int shift(", "return was", "return v", "p15", "shift");
         at("int shift(", "acts.remember(now);", "if (v != now.shift) {\n            acts.remember(now);\n"
             + "        }", "actsEach");
-        at("int shift(", "acts.remember(now);", "", "actsKinds", "actsUndone", "p17");
+        at("int shift(", "acts.remember(now);", "", "p15", "actsKinds", "actsUndone", "p17");
         at("int lose(", "return now.lost >> pack & 1", "return 1", "p16", "lostFirst");
         at("int lose(", "now.loseOrFind(pack)", "now.lost |= 1 << pack", "p16", "lostFirst", "actsKinds");
         at("int lose(", "return UNKNOWN", "return BAD", "p16", "packs");
-        at("int lose(", "acts.remember(now);", "", "actsKinds", "actsUndone", "calls");
+        at("int lose(", "acts.remember(now);", "", "p16", "actsKinds", "actsUndone", "calls");
         at("int lose(", "acts.remember(now);",
             "if ((now.lost >> pack & 1) == 0) {\n            acts.remember(now);\n        }", "actsKinds",
             "p17");
@@ -188,7 +194,7 @@ final class Breaks {
         at("int miss(", "set < 0", "set < -1", "p18");
         at("int miss(", "set >= SETS", "set > SETS", "p18", "refusedNothing");
         at("int miss(", "now.shift, set", "now.shift, set | now.lost", "p18");
-        at("int judge(", "n < 1", "n < 0", "judgeCount");
+        at("int judge(", "n < 1", "n < 0", "judgeCount", "p19");
         at("int judge(", "n < 1", "n < 2", "judgeCount", "p19");
         at("int judge(", "row < 0", "row < -1", "p19");
         at("int judge(", "row < 0", "row <= 0", "p19");
@@ -197,7 +203,7 @@ final class Breaks {
             "judgeAhead");
         at("int judge(", "return place", "return place + 1", "judgePlace", "judgeFigures", "p19");
         at("int judge(", "return NONE", "return n", "judgePlace", "judgeAhead", "p19", "none");
-        at("int judge(", "trial.copy(now);", "", "judgeAhead", "judgePack");
+        at("int judge(", "trial.copy(now);", "", "judgeAhead", "judgePack", "p19");
         at("boolean goesWell(", "case 1: return second == 0 && ", "case 1: return ", "judgePack");
         at("boolean goesWell(", "case 2: return second == 0 && ", "case 2: return ", "judgeShift");
         at("boolean goesWell(", "case 4: return second == 0 && ", "case 4: return ", "judgeBlank");
@@ -257,6 +263,8 @@ final class Breaks {
         at("int see(", "v < 0", "v < -1", "seenValue", "p20");
         at("int see(", "v < 0", "v < 1", "seenValue", "p20");
         at("int see(", "return UNKNOWN", "return BAD", "p20", "refusalOrder");
+        at("int see(", "line * DOTS + dot", "line * DOTS", "p20");
+        at("int see(", "line * DOTS + dot", "dot * DOTS + line", "p20");
         at("int see(", "return BAD", "return seen.size == 6 ? FULL : BAD", "refusalOrder", "p20");
         at("int see(", "seen.size : FULL", "seen.size - 1 : FULL", "p20", "seenSix");
         at("int unsee(", "return was", "return seen.size", "p21", "seenSix");
@@ -268,6 +276,7 @@ final class Breaks {
         at("boolean isSo(", "return false", "return i > 0", "whichAll", "whichBits");
         at("boolean isSo(", "!= values[i]", "!= values[i] % 19", "seenValue");
         at("int share(", "!isPack(pack)", "pack < 0 || pack > 4", "p23", "refusalNumbers");
+        at("int share(", "return fraction(sum, ORDERS, upper)", "return 1", "p23");
         at("int share(", "misses[lost] - misses[lost ^ bit]", "misses[lost ^ bit] - misses[lost]", "share",
             "fractionSigns", "p23");
         at("int share(", "(lost & bit) != 0", "(lost & bit) != 0 && (now.lost & bit) == 0",

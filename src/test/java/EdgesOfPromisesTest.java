@@ -285,6 +285,14 @@ public final class EdgesOfPromisesTest extends Edges {
         }
         range("about", 0, 14, BAD, what -> x.about(what) == NONE ? 0 : x.about(what));
         due("best change that is none", of(PAIR).about(9), NONE);
+        TwoHalves y = of(SQUARE);
+        y.shift(2);
+        // rows {0, 1}, {2, 3} are 2 off, columns {0, 2}, {1, 3} are 4, and no change makes 6 less
+        int[] then = {2, 2, 4, 2, 0, 0, 0, 2, 4, NONE, 0, 1, 1, 0, 15};
+        for (int what = 0; what <= 14; what++) {
+            due("about(" + what + ") of the square", y.about(what), then[what]);
+        }
+        due("the widest band", of(table(1, 6, 6)).about(11), 5);
     }
 
     private void shade() {
@@ -340,6 +348,9 @@ public final class EdgesOfPromisesTest extends Edges {
         due("as it comes out, by its column", x.dot(3, 3, true), 2);
         x.lose(3);
         due("as it comes out whole", x.dot(3, 3, true), 1);
+        x.paint(0, 2, 3);
+        due("as it was told", x.dot(0, 2, false), 3);
+        due("as it was at first, next to it", x.dot(0, 3, false), 0);
     }
 
     // ---- acts
@@ -365,6 +376,8 @@ public final class EdgesOfPromisesTest extends Edges {
         due("both sides off, of HALF 0", z.about(7), 4);
         due("both sides off, the other way", z.change(1, 2), 6);
         due("both sides off, of HALF 1", z.about(8), 4);
+        due("both are acts", z.undo(), 1);
+        due("back in row 0", z.shade(1, 0), 0);
         due("without shades", new TwoHalves().change(0, 1), UNKNOWN);
     }
 
@@ -382,6 +395,9 @@ public final class EdgesOfPromisesTest extends Edges {
         due("sides then", y.move(2, 0, 3), 2);
         due("into the cell that was left", y.move(0, 1, 3), 3);
         due("into the cell that was left then", y.move(0, 0, 0), 2);
+        due("all three are acts", y.undo(), 2);
+        due("back in row 1", y.shade(0, 0), 1);
+        due("back in column 3", y.shade(0, 1), 3);
         due("without shades", new TwoHalves().move(0, 0, 0), UNKNOWN);
     }
 
@@ -395,6 +411,8 @@ public final class EdgesOfPromisesTest extends Edges {
         due("2 by 0", y.lay(0), 0);
         due("2 by 1", y.lay(1), 1);
         due("sides as told", y.about(7) + y.about(8), 1);
+        due("both are acts", y.undo(), 1);
+        due("back on the diagonal", y.shade(1, 0), 1);
         due("bad, and too few", of(table(1, 6, 6)).lay(-1), BAD);
         due("6 by 4", of(table(1, 6, 6)).lay(4), LATE);
         due("6 by 5", of(table(1, 6, 6)).lay(5), 19);
@@ -411,6 +429,8 @@ public final class EdgesOfPromisesTest extends Edges {
         due("what it is", x.dot(3, 3, false), 0);
         due("what it was in a corner", x.paint(0, 0, 0), 1);
         due("what it was in another", x.paint(0, 3, 0), 1);
+        due("an act", x.undo(), 13);
+        due("what it is again", x.dot(0, 3, false), 1);
         due("without shades", new TwoHalves().paint(0, 0, 0), UNKNOWN);
     }
 
@@ -421,6 +441,10 @@ public final class EdgesOfPromisesTest extends Edges {
         due("what it was then", x.shift(2), 0);
         due("the same", x.shift(2), 2);
         due("what it is", x.about(3), 2);
+        due("the last of seven acts", x.undo(), 6);
+        due("as it was ahead of it", x.about(3), 2);
+        due("the one ahead of that", x.undo(), 5);
+        due("as it was ahead of that", x.about(3), 0);
     }
 
     private void lose() {
@@ -436,6 +460,8 @@ public final class EdgesOfPromisesTest extends Edges {
             due("those below", y.about(4), (1 << pack) - 1);
         }
         due("lost again", y.lose(3), 1);
+        due("the last of nine acts", y.undo(), 8);
+        due("found again", y.about(4), 0);
     }
 
     private void undo() {
@@ -492,8 +518,13 @@ public final class EdgesOfPromisesTest extends Edges {
             due("row high", x.judge(n, Long.MAX_VALUE), BAD);
         }
         due("n and row are bad", x.judge(0, -1), BAD);
+        due("no doings", x.judge(0, 0), BAD);
         due("none", x.judge(1, 100), NONE);
         due("the last", x.judge(4, 100100100999L), 3);
+        x.shift(0);
+        due("line 0 is blank without pack 0", x.judge(2, 100400), NONE);
+        due("and is so when asked again", x.judge(2, 100400), NONE);
+        due("since nothing was done", x.judge(1, 400), 0);
     }
 
     private void see() {
@@ -509,6 +540,11 @@ public final class EdgesOfPromisesTest extends Edges {
         due("unknown and full", x.see(4, 0, 0), UNKNOWN);
         due("bad and full", x.see(0, 0, 20), BAD);
         due("six", x.about(13), 6);
+        TwoHalves y = of(PAIR);
+        y.shift(0);
+        y.paint(2, 1, 1);
+        y.see(2, 1, 1);
+        due("so if pack 2 is not lost", y.which(), 0x0f0f);
     }
 
     private void unsee() {
@@ -555,6 +591,21 @@ public final class EdgesOfPromisesTest extends Edges {
             due("share of " + pack, x.share(pack, true), 1);
             due("share of " + pack + ", below", x.share(pack, false), 1);
         }
+        TwoHalves y = of(PAIR);
+        y.shift(0);
+        paintDown(y, 1, 1, 1, 1);
+        // 4 off if all are lost, else 0: the one that comes first takes all away
+        due("share of 4 off", y.share(1, true), 1);
+        for (int line = 0; line < 4; line++) {
+            y.paint(line, 3, 1);
+        }
+        due("share of 8 off", y.share(2, true), 2);
+        due("share of 8 off, below", y.share(2, false), 1);
+        TwoHalves z = of(PAIR);
+        z.shift(0);
+        z.paint(0, 0, 1);
+        due("share of 1 off", z.share(3, true), 1);
+        due("share of 1 off, below", z.share(3, false), 4);
     }
 
     private void chance() {
